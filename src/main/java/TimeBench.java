@@ -26,6 +26,7 @@ public final class TimeBench {
     private static final int MOST_STEPS = 100;
 
     private static final int UNTOLD = 1000000;
+    private static final int NOT_STEERED = 1000000;
     private static final int UNKNOWN = 2000000000;
     // Below every hour and every hour less one, so that it never looks like the hour ahead.
     private static final int NEVER = -10;
@@ -201,7 +202,7 @@ public final class TimeBench {
             return refusalAt(p);
         }
         if (!isWithin(v, MOST_READ) || !isWithin(clock.setting + v, MOST_SET)) {
-            return UNTOLD;
+            return NOT_STEERED;
         }
         clock.setting += v;
         return clock.setting;
