@@ -4,7 +4,9 @@ import java.lang.reflect.Method;
 import java.lang.reflect.Modifier;
 import java.nio.file.Files;
 import java.nio.file.Path;
+import java.util.Map;
 import java.util.Set;
+import java.util.TreeMap;
 import java.util.TreeSet;
 import java.util.regex.Matcher;
 import java.util.regex.Pattern;
@@ -22,6 +24,11 @@ public final class LanguageTest {
         "\\b(throw|throws|try|catch|finally|synchronized|assert|native|volatile|transient)\\b", "->", "::",
         "\\b(Object|Exception|Throwable|Error|System|Thread|Class|Random|Date|Stream|Map|HashMap|Set)\\b",
         "Exact\\(", "\\bNaN\\b", "^package ", "\\bstatic \\{"};
+
+    private static final Pattern METHOD = Pattern.compile(
+            " +(?:public |private |static )*(?:int|long|boolean|void|[A-Z]\\w*) (\\w+)\\([^)]*\\) \\{");
+    // A library's method is called behind its class's name, and counts as none of the program's.
+    private static final Pattern CALL = Pattern.compile("(?<!Math\\.)(?<!Arrays\\.)\\b([a-z]\\w*)\\(");
 
     private static int wrong = 0;
 
@@ -98,7 +105,49 @@ public final class LanguageTest {
         for (int i = 0; i < source.length(); i++) {
             due("a character that is not ASCII", source.charAt(i) < 128);
         }
+        due("texts joined by +", !Pattern.compile("\"\\s*\\+|\\+\\s*\"").matcher(code).find());
         methods(code.split("\n"));
+        depths(code);
+    }
+
+    /** Rules 8 and 11 by the methods' names: those of one name count as one, so this never counts too few. */
+    private static void depths(String code) {
+        Map<String, Set<String>> called = new TreeMap<>();
+        String name = null;
+        for (String line : code.split("\n")) {
+            Matcher head = METHOD.matcher(line);
+            if (head.matches()) {
+                name = head.group(1);
+                called.computeIfAbsent(name, n -> new TreeSet<>());
+                continue;
+            }
+            Matcher call = CALL.matcher(line);
+            while (name != null && call.find()) {
+                called.get(name).add(call.group(1));
+            }
+        }
+        due("all methods are found: " + called.keySet(), called.keySet().containsAll(faceNames()));
+        for (String method : called.keySet()) {
+            due(method + " goes too deep or calls itself", depth(method, called, 1) <= 8);
+        }
+    }
+
+    private static Set<String> faceNames() {
+        Set<String> names = new TreeSet<>();
+        for (String signature : FACE) {
+            names.add(signature.replaceAll(".* (\\w+)\\(.*", "$1"));
+        }
+        return names;
+    }
+
+    private static int depth(String method, Map<String, Set<String>> called, int level) {
+        int deepest = level;
+        for (String next : called.get(method)) {
+            if (level <= 8 && called.containsKey(next)) {
+                deepest = Math.max(deepest, depth(next, called, level + 1));
+            }
+        }
+        return deepest;
     }
 
     private static void methods(String[] lines) {
